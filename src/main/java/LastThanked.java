@@ -1187,6 +1187,7 @@ public final class LastThanked {
 
     private static final class Thanks {
         private static final int NEVER = 1000;
+        private static final int NO_CHANGE = 1000000000;
 
         final int[] who = new int[MOST_THANKS];
         final int[] whom = new int[MOST_THANKS];
@@ -1265,7 +1266,7 @@ public final class LastThanked {
 
         // The next minute at which somebody may lean otherwise.
         int nextChange(int now, int last) {
-            int next = Integer.MAX_VALUE;
+            int next = NO_CHANGE;
             for (int i = 0; i < size; i++) {
                 if (minute[i] > now) {
                     next = Math.min(next, minute[i]);
@@ -1443,7 +1444,7 @@ public final class LastThanked {
     // as many and more servants thanked.
     private static final class Planner {
         private static final int MOST_STATES = 80000;
-        private static final int NEVER = Integer.MAX_VALUE;
+        private static final int NEVER = 1000000000;
         private static final int MINUTE = 1000;
 
         private final int[] least = new int[MOST_STATES];
