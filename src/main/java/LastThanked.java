@@ -1438,10 +1438,11 @@ public final class LastThanked {
         }
     }
 
-    // The least cost of each state of a plan. Servants go only when a task is done: its hands come,
-    // and, as the lowest there are as if never thanked, lower ones step aside; going sooner or
-    // farther is never better on one stair. So states lead only to higher ones: more tasks done, or
-    // as many and more servants thanked.
+    // The least cost of each state of a plan. Servants go only when a task is done, and only its hands
+    // come: going sooner is never better on one stair. With ONCE any hands there may be taken for the
+    // lowest, as those there and thanked are alike but for their numbers: what one can do from then
+    // on, another can. So states lead only to higher ones: more tasks done, or as many and more
+    // servants thanked.
     private static final class Planner {
         private static final int MOST_STATES = 80000;
         private static final int NEVER = 1000000000;
@@ -1569,40 +1570,11 @@ public final class LastThanked {
         }
 
         private void doWith(int task, int hands) {
-            int aside = once ? lowerOnes(task, hands) : 0;
-            for (int up = 0; up <= aside; up++) {
-                if ((up & ~aside) == 0) {
-                    doStepping(task, hands, aside, up);
-                }
-            }
-        }
-
-        // Those there and thanked that would be hands in place of higher ones.
-        private int lowerOnes(int task, int hands) {
-            int lower = 0;
-            for (int servant = 0; servant < house.servants; servant++) {
-                int bit = 1 << servant;
-                boolean there = place[servant] == house.taskRows[task][ROOM];
-                if (there && (thanked & ~hands & bit) != 0 && bit < hands) {
-                    lower |= bit;
-                }
-            }
-            return lower;
-        }
-
-        private void doStepping(int task, int hands, int aside, int up) {
             int minutes = house.taskRows[task][MINUTES];
             int placing = 0;
             for (int servant = house.servants - 1; servant >= 0; servant--) {
-                int to = place[servant];
-                if ((hands >> servant & 1) == 1) {
-                    to = house.taskRows[task][ROOM];
-                } else if ((aside >> servant & 1) == 1) {
-                    to += (up >> servant & 1) == 1 ? 1 : -1;
-                }
-                if (to < 0 || to >= house.rooms) {
-                    return;
-                }
+                boolean isHand = (hands >> servant & 1) == 1;
+                int to = isHand ? house.taskRows[task][ROOM] : place[servant];
                 minutes += Math.abs(to - place[servant]);
                 placing = placing * house.rooms + to;
             }

@@ -43,7 +43,7 @@ public final class PlanTest {
         plan("r3;s;m;t;t", 1, 12, 2, 2);
         plan("r3;s;s;m;t;t", 1, 12, 2, 2);
         plan("r3;s;s;m;th2n1;tn1", 1, 2 + 1 + 1 + 1, 3, 3);
-        // The lowest there is the one as if never thanked: it steps aside, or the higher one is thanked late.
+        // Hands are as if never thanked behind each task.
         plan("r3;s;s;m;tn1;tr2n1", 1, 2 + 2 + 2, 2, 2);
         plan("r2;sa0;sa1;m;tr0n1;tr1n1p0", 1, 1 + 1 + 1 + 1 + 1, 2, 2);
     }

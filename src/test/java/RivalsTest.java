@@ -8,13 +8,15 @@ public final class RivalsTest {
         games();
         refusals();
         Random random = new Random(13);
+        LastThanked x = new LastThanked();
         for (int i = 0; i < 400; i++) {
             SlowHouse house = SlowHouse.random(random, 5, 6);
             int one = random.nextInt(house.masters.length);
             int other = random.nextInt(house.masters.length);
             int n = 1 + random.nextInt(i % 40 == 0 ? 8 : 4);
             String text = house.text(random);
-            LastThanked x = Check.house(text);
+            x = i % 20 == 0 ? new LastThanked() : x;
+            Check.tell(x, 0, text);
             int[] due = one == other ? new int[] {-1000000, -1000000} : house.rivals(one, other, n);
             String told = text + " " + one + " " + other + " " + n;
             CHECK.due("value " + told, x.rivals(one, other, n, 0), due[0]);

@@ -10,6 +10,7 @@ public final class RowsTest {
         fewest();
         days();
         images();
+        judgedAnew();
         Random random = new Random(17);
         for (int i = 0; i < 800; i++) {
             randomRows(random);
@@ -138,6 +139,27 @@ public final class RowsTest {
         Check.tell(x, 0, "r2;s;s;m;m");
         CHECK.due("of another house", x.back(), -1);
         CHECK.due("none", x.count(6), 0);
+    }
+
+    private static void judgedAnew() {
+        LastThanked x = Check.house("r2;so0;s;m;m");
+        x.thank(1, 0, 1);
+        x.thank(0, 1, 2);
+        x.image();
+        x.undo();
+        x.undo();
+        x.thank(0, 0, 1);
+        x.thank(0, 0, 2);
+        CHECK.due("barred", x.counted(0) + x.counted(1), 0);
+        x.back();
+        CHECK.due("counts again", x.counted(0), 1);
+        CHECK.due("counts again", x.counted(1), 1);
+        Check.tell(x, 0, "r2;so1;s;m;m");
+        x.thank(1, 0, 1);
+        CHECK.due("barred in another house", x.counted(0), 0);
+        x.undo();
+        x.thank(0, 0, 1);
+        CHECK.due("judged after undo", x.counted(0), 1);
     }
 
     private static void randomRows(Random random) {

@@ -242,6 +242,12 @@ public final class TextTest {
         CHECK.due("set once 2", x.set(2, 2), false);
         CHECK.due("set once -1", x.set(2, -1), false);
         CHECK.due("once", x.count(9), 1);
+        CHECK.due("once off", x.set(2, 0), true);
+        CHECK.due("once", x.count(9), 0);
+        CHECK.due("last off", x.set(1, 0), true);
+        CHECK.due("last", x.count(8), 0);
+        x.set(1, 999);
+        x.set(2, 1);
         CHECK.due("set 3", x.set(3, 0), false);
         CHECK.due("set -1", x.set(-1, 0), false);
         x.thank(0, 0, 5);

@@ -77,11 +77,14 @@ public final class ThanksTest {
         for (int[] row : wrong) {
             CHECK.due("one", x.one(row[0], row[1], row[2]), -1);
             CHECK.due("all", x.all(row[0], row[1], row[2]), -1);
+            CHECK.due("all", x.all(row[0] == 0 ? 1 : row[0], row[1], row[2]), -1);
             CHECK.due("cut", x.cut(row[0], 1, row[1], row[2]), -1);
             CHECK.due("cut", x.cut(1, row[0], row[1], row[2]), -1);
         }
         CHECK.due("cut alike", x.cut(1, 1, 0, 0), -1);
         CHECK.due("all can't", x.all(0, 0, 0), -1);
+        CHECK.due("all can", x.all(1, 0, 0), 2);
+        CHECK.due("all can", x.all(1, 0, 1), 3);
         int[][] spans = {{-1, 5}, {5, 4}, {0, 1001}, {1001, 1001}};
         for (int[] span : spans) {
             CHECK.due("wages", x.wages(0, span[0], span[1]), -1);
