@@ -53,6 +53,10 @@ public final class PlanEdgesTest {
         plan("r5;sa4;m;tr4n1", 6, 1, 1);
         plan("r5;s;ma4;tr0n1", 6, 1, 1);
         plan("r5;so0;sa4;m;m;tr4n1", 6, 1, 1);
+        S.says("plan", "0 the lowest, each a minute from the next");
+        plan("r5;sa1;m;tr2n1", 2 + 1 + 1, 1, 1);
+        plan("r5;sa3;ma1;tr2n1", 3 + 1 + 1, 1, 1);
+        plan("r5;sa3;ma4;tr3n1", 2 + 1, 1, 1);
         S.says("plan", "a SERVANT that it has thanked goes to another ROOM (the ROOMS between in minutes)");
         plan("r5;s;m;tr1n1", 3, 1, 1);
         plan("r5;s;m;tr4n1", 6, 1, 1);

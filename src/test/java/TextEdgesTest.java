@@ -574,6 +574,9 @@ public final class TextEdgesTest {
         S.on(x, "tape r2;s;m;t", "text(0) = 1; servant(0, 0) = 0; servant(0, 1) = NONE; servant(0, 2) = 1; master(0) = 0",
                 "task(0, 0) = 0; task(0, 1) = 1; task(0, 2) = 5; task(0, 3) = NONE; count(0) = 2; count(1) = 1; count(2) = 1",
                 "count(3) = 1; servant(1, 0) = THROWS; master(1) = NONE; task(1, 0) = HIDDEN");
+        x = S.run("tape r6;sa5o2w9;sa5o2w9;sa5o2w9;sa5o2w9;sa5o2w9;ma5;ma5;ma5;tr5h3n30;tr5h3n30p0;tr5h3n30p1;tr5h3n30p2");
+        S.on(x, "text(0) = 5; servant(4, 0) = 5; servant(4, 1) = 2; servant(4, 2) = 9; master(2) = 5; task(3, 0) = 5");
+        S.on(x, "task(3, 1) = 3; task(3, 2) = 30; task(3, 3) = 2; count(0) = 6; count(1) = 5; count(2) = 3; count(3) = 4");
         S.says("text", "(THANKS, SEEN, IMAGE of another one are gone");
         for (String next : new String[] {"house r3;sa2w4;so0;s;ma1;m;tn3;tr2h2p0", "house r2;s;s;m;m"}) {
             x = S.run(FULL);
