@@ -705,10 +705,10 @@ public final class LastThanked {
 
         // The sign behind the blanks; NONE at the end.
         final int next() {
-            while (at < tape.length && tape.signAt(at) == ' ') {
+            while (at < tape.length && at < MOST_BYTES && tape.bytes[at] == ' ') {
                 at++;
             }
-            return tape.signAt(at);
+            return at < tape.length && at < MOST_BYTES ? tape.bytes[at] : NONE;
         }
 
         final boolean pass(int sign) {
@@ -729,12 +729,12 @@ public final class LastThanked {
                 return NONE;
             }
             int value = 0;
-            for (int digits = 0; isDigit(tape.signAt(at)); digits++) {
-                if (digits >= mostDigits) {
-                    return NONE;
-                }
+            for (int digits = 0; digits < mostDigits && isDigit(tape.signAt(at)); digits++) {
                 value = value * 10 + tape.signAt(at) - '0';
                 at++;
+            }
+            if (isDigit(tape.signAt(at))) {
+                return NONE;
             }
             if (value < low || value > high) {
                 at--;
@@ -864,10 +864,9 @@ public final class LastThanked {
         }
 
         private boolean clause() {
-            return pass('y') && pass(':') && body() && emit(-';');
-        }
-
-        private boolean body() {
+            if (!pass('y') || !pass(':')) {
+                return false;
+            }
             int sign = next();
             if (sign == '!' || sign == '(') {
                 return condition(0) && guarded();
@@ -875,14 +874,14 @@ public final class LastThanked {
             if (!sum(0)) {
                 return false;
             }
-            if (!isComparison(next())) {
-                return true;
+            if (isComparison(next())) {
+                return comparison(0) && moreUnits(0) && moreTruths(0) && guarded();
             }
-            return comparison(0) && moreUnits(0) && moreTruths(0) && guarded();
+            return emit(-';');
         }
 
         private boolean guarded() {
-            return pass('?') && emit(-'?') && sum(0);
+            return pass('?') && emit(-'?') && sum(0) && emit(-';');
         }
 
         private boolean condition(int depth) {
@@ -1091,16 +1090,17 @@ public final class LastThanked {
 
         int worth(int m, int s, int t, int n, int l) {
             height = 0;
+            boolean holds = true;
             for (int i = 0; i < size; i++) {
                 int sign = -code[i];
-                if (sign <= 0) {
+                if (!holds) {
+                    holds = sign == ';';
+                } else if (sign <= 0) {
                     push(code[i]);
                 } else if (sign == ';') {
                     return pop();
                 } else if (sign == '?') {
-                    if (pop() == 0) {
-                        i = endOfClause(i);
-                    }
+                    holds = pop() != 0;
                 } else if (sign == 'm') {
                     push(m);
                 } else if (sign == 's') {
@@ -1116,14 +1116,6 @@ public final class LastThanked {
                 }
             }
             return 0;
-        }
-
-        private int endOfClause(int from) {
-            int i = from;
-            while (i < size && code[i] != -';') {
-                i++;
-            }
-            return i;
         }
 
         private void operate(int sign) {

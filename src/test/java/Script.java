@@ -11,7 +11,7 @@ import java.util.NoSuchElementException;
  * A boolean is 1 or 0; NoSuchElementException is THROWS; MIN and MAX are the least and the largest int.
  */
 final class Script {
-    private static final long THROWS = Long.MIN_VALUE;
+    static final long THROWS = Long.MIN_VALUE;
     private static final Map<String, Method> FACE = new HashMap<>();
     private final Check check;
     private String sentence = "";
